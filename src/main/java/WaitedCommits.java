@@ -1,3 +1,4 @@
+/** Follows ../shared/DOC.md; the names of fields and states are that document's terms. */
 public final class WaitedCommits {
     public static final int NONE = -1;
     public static final long REFUSED = 1L << 40;
@@ -94,7 +95,8 @@ public final class WaitedCommits {
         private int stamp = 0;
         private int end = 0;
         private final int[] locks = new int[KEYS];
-        // Only a write locks exclusively, so a key has a written value just while its lock is exclusive.
+        // Only a write locks exclusively, so a key has a written value just while its lock
+        // is exclusive.
         private final int[] written = new int[KEYS];
         // A mark is at least a bound + 1, so 0 can stand for none.
         private final int[] marks = new int[SITES];

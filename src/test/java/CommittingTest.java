@@ -255,14 +255,24 @@ public final class CommittingTest {
 
     private static void messagesInOrder() {
         DUE.promise("11, the one that was sent first");
-        WaitedCommits x = new WaitedCommits(0);
-        writeAndCommit(x, 3, 0, 1);
-        writeAndCommit(x, 1, 3, 4);
-        x.step(1);
-        DUE.is("marks(1)", x.marks(1), 2 + 8 * 1);
-        x.step(1);
-        DUE.is("stamp(3)", x.stamp(3), 1);
-        DUE.is("stamp(1)", x.stamp(1), 2);
+        int[][] orders = {{3, 1}, {1, 3}};
+        for (int[] order : orders) {
+            WaitedCommits x = new WaitedCommits(0);
+            x.delay(1, 2);
+            writeAndCommit(x, order[0], 0, 1);
+            x.step(2);
+            x.delay(1, 0);
+            writeAndCommit(x, order[1], 3, 4);
+            x.step(1);
+            DUE.is("marks(1)", x.marks(1), 2 + 8 * 3);
+            x.power(0, false);
+            x.step(1);
+            DUE.is("messages()", x.messages(), 2);
+            x.power(0, true);
+            x.step(1);
+            DUE.is("stamp of the first", x.stamp(order[0]), 3);
+            DUE.is("stamp of the second", x.stamp(order[1]), 4);
+        }
     }
 
     private static void waitingMessagesInOrder() {
