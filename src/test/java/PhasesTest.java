@@ -166,6 +166,7 @@ public final class PhasesTest {
         DUE.is("messages(): the PREPARE", x.messages(), 1);
         DUE.is("marks(1)", x.marks(1), 0);
         x.power(1, true);
+        DUE.is("step(0)", x.step(0), 0);
         DUE.is("marks(1) before a step", x.marks(1), 0);
         x.step(1);
         DUE.is("marks(1)", x.marks(1), Edges.marks(1, 11));
@@ -363,6 +364,10 @@ public final class PhasesTest {
         x.clock(0, 0, 20);
         DUE.is("state(0) when the clock is better", x.state(0), 3);
         DUE.is("step(0)", x.step(0), 0);
+        Edges.writeAndCommit(x, 1, 3);
+        x.readAt(0, 3);
+        x.power(0, false);
+        x.power(0, true);
         DUE.is("state(0)", x.state(0), 3);
         DUE.is("step(1)", x.step(1), 1);
         DUE.is("end(0)", x.end(0), 31);

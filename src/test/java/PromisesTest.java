@@ -10,11 +10,13 @@ public final class PromisesTest {
 
     public static void main(String[] args) {
         theBoundsOfE();
+        objectsOfTheirOwn();
         clockTakesZeroToE();
         clockCountsFromNowOn();
         delayTakesZeroToNine();
         powerChanges();
         powerKeepsWhatLiesThere();
+        powerKeepsClockAndDelay();
         beginOfEach();
         beginAfterAborted();
         beginAfterCommittedWithoutLocks();
@@ -68,6 +70,29 @@ public final class PromisesTest {
             x.step(100);
             DUE.is("end(0) with e = " + e, x.end(0), 2 * kept + 2);
         }
+    }
+
+    private static void objectsOfTheirOwn() {
+        DUE.promise("1: A new object, whatever others have been through");
+        WaitedCommits other = Scenes.busyWithout(2);
+        WaitedCommits x = new WaitedCommits(3);
+        other.step(5);
+        DUE.is("now()", x.now(), 0);
+        DUE.is("messages()", x.messages(), 0);
+        for (int t = 0; t < 5; t++) {
+            DUE.is("state", x.state(t), 0);
+        }
+        for (int p = 0; p < 3; p++) {
+            DUE.is("safe", x.safe(p), 3);
+            DUE.is("marks", x.marks(p), 0);
+            DUE.is("bound", x.bound(p), 0);
+        }
+        for (int k = 0; k < 9; k++) {
+            DUE.is("holders", x.holders(k), 0);
+            DUE.is("version(k, 0)", x.version(k, 0), 0);
+            DUE.is("version(k, 1)", x.version(k, 1), -1);
+        }
+        DUE.is("now() of the other", other.now(), 25);
     }
 
     private static void clockTakesZeroToE() {
@@ -173,6 +198,26 @@ public final class PromisesTest {
             DUE.is("read(2, k + 6)", x.read(2, p + 6), 9);
             DUE.is("readAt(k, 5)", x.readAt(p, 5), p);
             DUE.is("readAt(k, 6)", x.readAt(p, 6), REFUSED);
+        }
+    }
+
+    private static void powerKeepsClockAndDelay() {
+        DUE.promise("4: (what lies at it stays), and so do its clock and its delay");
+        for (int p = 0; p < 2; p++) {
+            WaitedCommits x = new WaitedCommits(9);
+            x.clock(p, 2, 3);
+            x.delay(p, 5);
+            x.power(p, false);
+            x.step(1);
+            x.power(p, true);
+            DUE.is("safe(p)", x.safe(p), 4);
+            Edges.writeAndCommit(x, 0, p, 2);
+            x.step(5);
+            DUE.is("marks(2) before PREPARE arrives", x.marks(2), 0);
+            x.step(1);
+            DUE.is("marks(2)", x.marks(2), Edges.marks(1, 16));
+            x.step(12);
+            DUE.is("end(0): the earliest time is 17", x.end(0), 19);
         }
     }
 
@@ -297,6 +342,13 @@ public final class PromisesTest {
                 DUE.is("read again", x.read(1, k), v);
             }
         }
+        WaitedCommits x = new WaitedCommits(0);
+        Edges.writeAndCommit(x, 1, 8);
+        x.step(2);
+        x.begin(0);
+        DUE.is("read(0, 8)", x.read(0, 8), 108);
+        x.write(0, 8, 0);
+        DUE.is("read(0, 8) of the 0 that it wrote", x.read(0, 8), 0);
     }
 
     private static void readOfTheNewestVersion() {
