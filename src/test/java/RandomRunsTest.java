@@ -105,7 +105,7 @@ public final class RandomRunsTest {
             }
             case 17, 18, 19 -> readAt(k);
             default -> {
-                int n = any(random.nextInt(5) == 0 ? 30 : 3);
+                int n = any(random.nextInt(100) == 0 ? 501 : random.nextInt(5) == 0 ? 30 : 3);
                 same("step", x.step(n), model.step(n));
             }
         }
